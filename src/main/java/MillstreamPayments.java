@@ -629,7 +629,7 @@ public final class MillstreamPayments {
 
         int queuedAt(int bank, int currency, int place) {
             Payment queued = nextQueued(bank, currency, null);
-            for (int i = 0; i < place && queued != null; i++) {
+            for (int i = 0; i < Math.min(place, MOST_PAYMENTS) && queued != null; i++) {
                 queued = nextQueued(bank, currency, queued);
             }
             return queued == null ? NONE : queued.number;

@@ -100,6 +100,7 @@ public final class BanksTest {
         Checks.due("3 the account stays", x.account(0, 0), -10);
         int back = real(x, 1, 1, 0, 4);
         Checks.due("3 an account that has more by it may be too low", x.stateOf(back), FINAL);
+        Checks.due("3 or no less", x.stateOf(real(x, 1, 2, 2, 3)), FINAL);
         Checks.due("3 most", x.line(0, 0, 1000000), 0);
         Checks.due("3 least", x.line(0, 0, 0), 1000000);
         Checks.index("3 bank -1", x, () -> x.line(-1, 0, 1));

@@ -11,6 +11,7 @@ public final class DaysTest {
         promise17And18();
         cutOffTakesOutByAccounts();
         cutOffTakesOutByLimits();
+        cutOffGoesByLowestPairs();
         cutOffLeavesOut();
         whatMayNotStayIsReturned();
         fees();
@@ -47,6 +48,19 @@ public final class DaysTest {
         Checks.due("17 states", Checks.states(y), Checks.list(FINAL, FINAL, FINAL, FINAL));
         Checks.due("17 paid counts from the day's begin", y.paid(0, 1, 0), 3);
         Checks.due("17 of all currencies", y.paid(0, 1, 2), 0);
+        MillstreamPayments z = new MillstreamPayments();
+        z.list(9, true);
+        z.send(0, 0, 1, 0, 5, 1, 0, true, 0, true);
+        z.send(1, 0, 0, 1, 5, 9, 0, true, 0, true);
+        z.join(0, 1);
+        z.fund(0, 0, 5);
+        Checks.due("17 a leg whose other one is HELD", z.endDay(), 0);
+        z.release(1, 0);
+        z.release(1, 1);
+        Checks.due("17 or has no money", z.endDay(), 0);
+        z.limit(1, 0, 1, 4);
+        z.fund(1, 1, 5);
+        Checks.due("17 or is beyond a limit", z.endDay(), 0);
     }
 
     private static void cutOffTakesOutByAccounts() {
@@ -103,6 +117,46 @@ public final class DaysTest {
         net(z, 0, 1, 1, 6, 0);
         Checks.due("17 what was paid on the day counts", z.endDay(), 0);
         Checks.due("17 on the next day it does not", z.endDay(), 1);
+    }
+
+    /** Which limit is looked at first shows by what is taken out for accounts in between. */
+    private static void cutOffGoesByLowestPairs() {
+        MillstreamPayments x = new MillstreamPayments();
+        x.fund(0, 0, 10);
+        x.fund(1, 0, 11);
+        x.limit(0, 2, 0, 0);
+        x.limit(1, 0, 0, 0);
+        net(x, 0, 0, 2, 10, 0);
+        net(x, 1, 0, 0, 10, 0);
+        net(x, 1, 1, 3, 5, 0);
+        net(x, 2, 0, 1, 4, 0);
+        Checks.due("17 0 to 2 goes, so 2 to 1, so 1 to 3, and then 1 to 0", x.endDay(), 0);
+        Checks.due("17 none is left", Checks.states(x), Checks.list(NETTED, NETTED, NETTED, NETTED));
+        MillstreamPayments y = new MillstreamPayments();
+        y.fund(0, 0, 5);
+        y.fund(4, 0, 26);
+        y.limit(0, 1, 0, 0);
+        y.limit(0, 2, 0, 0);
+        net(y, 0, 0, 1, 10, 0);
+        net(y, 0, 1, 2, 10, 0);
+        net(y, 0, 2, 3, 5, 0);
+        net(y, 1, 0, 4, 4, 0);
+        net(y, 4, 0, 0, 30, 0);
+        Checks.due("17 0 to 1 goes, so 1 to 4, so 4 to 0, so 0 to 3 ahead of 0 to 2", y.endDay(), 0);
+        MillstreamPayments z = new MillstreamPayments();
+        z.fund(1, 0, 10);
+        z.limit(1, 0, 0, 5);
+        net(z, 1, 0, 0, 3, 0);
+        net(z, 1, 1, 0, 3, 0);
+        net(z, 1, 2, 5, 3, 0);
+        Checks.due("17 a limit for the bank 0", z.endDay(), 2);
+        Checks.due("17 the last one to it", Checks.states(z), Checks.list(FINAL, NETTED, FINAL));
+        MillstreamPayments v = new MillstreamPayments();
+        v.fund(1, 0, 6);
+        v.limit(1, 2, 0, 5);
+        net(v, 1, 0, 2, 6, 0);
+        net(v, 1, 1, 3, 1, 0);
+        Checks.due("17 for accounts ahead of limits", v.endDay(), 0);
     }
 
     private static void cutOffLeavesOut() {

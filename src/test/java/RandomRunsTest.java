@@ -5,6 +5,7 @@ import java.util.function.LongSupplier;
 /** Many runs of calls, drawn from a counted row of numbers, on the program and on the Model: all answers are alike. */
 public final class RandomRunsTest {
     private static final int RUNS = 600;
+    private static final int CROWDED_RUNS = 3000;
     private static final long THROWS_INDEX = Long.MIN_VALUE;
     private static final long THROWS_ARGUMENT = Long.MIN_VALUE + 1;
     private static final long THROWS_STATE = Long.MIN_VALUE + 2;
@@ -20,6 +21,9 @@ public final class RandomRunsTest {
     public static void main(String[] args) {
         for (int run = 0; run < RUNS; run++) {
             new RandomRunsTest().oneRun(run);
+        }
+        for (int run = 0; run < CROWDED_RUNS; run++) {
+            new RandomRunsTest().crowdedRun(run);
         }
         Checks.end();
     }
@@ -51,6 +55,40 @@ public final class RandomRunsTest {
             same("run " + run + " after call " + call);
         }
         drainAdvices("run " + run);
+    }
+
+    /** Many payments and limits at once, so that sets have much to take out. */
+    private void crowdedRun(int run) {
+        seed = run * 104729L + 3;
+        draw(2);
+        x = new MillstreamPayments();
+        model = new Model();
+        banks = 3 + draw(4);
+        String what = "crowded run " + run;
+        boolean isReal = drawOneOf(2);
+        for (int bank = 0; bank < banks; bank++) {
+            int line = draw(isReal ? 30 : 60);
+            x.line(bank, 0, line);
+            model.line(bank, 0, line);
+            for (int other = 0; other < banks; other++) {
+                int limit = draw(40);
+                if (other != bank && drawOneOf(2)) {
+                    x.limit(bank, other, 0, limit);
+                    model.limit(bank, other, 0, limit);
+                }
+            }
+        }
+        int many = 10 + draw(30);
+        for (int i = 0; i < many; i++) {
+            int bank = draw(banks);
+            int to = (bank + 1 + draw(banks - 1)) % banks;
+            Model.Message m = new Model.Message(bank, i, to, 0, 1 + draw(60), 1, draw(3), isReal, 0, true);
+            both(what + " " + m, () -> x.send(m.bank(), m.message(), m.to(), m.currency(), m.amount(), m.payee(),
+                    m.rank(), m.isReal(), m.day(), m.stays()), () -> model.send(m));
+        }
+        both(what + " offset", () -> x.offset(0), () -> model.offset(0));
+        both(what + " endDay", x::endDay, model::endDay);
+        same(what);
     }
 
     private void same(String what) {
