@@ -17,6 +17,7 @@ public final class DaysTest {
         fees();
         interest();
         waitingOnesEnter();
+        theBookHoldsLongRuns();
         Checks.end();
     }
 
@@ -293,5 +294,27 @@ public final class DaysTest {
         Checks.due("17 day 6", x.stateOf(5), WAITING);
         Checks.due("17 day 7", x.endDay(), 1);
         Checks.due("17 FINAL", x.stateOf(5), FINAL);
+    }
+
+    /** Each account of each bank below 0, to the last of 512 calls; and far more calls, that throw nothing. */
+    private static void theBookHoldsLongRuns() {
+        MillstreamPayments x = new MillstreamPayments();
+        for (int currency = 0; currency < 3; currency++) {
+            for (int bank = 0; bank < 6; bank++) {
+                x.line(bank, currency, 1000);
+            }
+            x.send(0, currency, 1, currency, 500, 1, 0, true, 0, true);
+        }
+        for (int call = 21; call < 512; call++) {
+            x.endDay();
+        }
+        Checks.due("17 one entry a day and account, and fees and payments", x.entries(), 491 * 3 + 6);
+        for (int bank = 0; bank < 7; bank++) {
+            Checks.due("17 the book balances", x.accountAnew(bank, 2), x.account(bank, 2));
+        }
+        for (int i = 0; i < 25000; i++) {
+            x.fund(i % 6, i % 3, 1);
+        }
+        Checks.due("17 a call beyond 512 throws nothing", x.entryAt(0, 2), 0);
     }
 }
