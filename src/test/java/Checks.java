@@ -4,14 +4,20 @@ import java.util.List;
 /** What the tests share: a count of wrong answers, looks at what a call throws, and a picture of an object. */
 final class Checks {
     private static int wrong = 0;
+    private static String test = "";
 
     private Checks() {
+    }
+
+    /** What follows is told as of this test. */
+    static void begin(String name) {
+        test = name + ": ";
     }
 
     static void due(String what, long got, long want) {
         if (got != want) {
             wrong++;
-            System.out.println(what + ": answered " + got + ", due is " + want);
+            System.out.println(test + what + ": answered " + got + ", due is " + want);
         }
     }
 
@@ -22,7 +28,7 @@ final class Checks {
     static void due(String what, List<Long> got, List<Long> want) {
         if (!got.equals(want)) {
             wrong++;
-            System.out.println(what + ": answered " + got + ", due is " + want);
+            System.out.println(test + what + ": answered " + got + ", due is " + want);
         }
     }
 
@@ -54,11 +60,11 @@ final class Checks {
         }
         if (got != want) {
             wrong++;
-            System.out.println(what + ": threw " + got + ", due is " + want);
+            System.out.println(test + what + ": threw " + got + ", due is " + want);
         }
         if (!picture(x).equals(before)) {
             wrong++;
-            System.out.println(what + ": changed something");
+            System.out.println(test + what + ": changed something");
         }
     }
 
