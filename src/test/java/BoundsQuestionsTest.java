@@ -38,6 +38,20 @@ public final class BoundsQuestionsTest extends Bounds {
         today.fund(0, 0, 10);
         real(today, 0, 0, 1, 10);
         due("one that was FINAL ahead of it is none", today.endDay(), 0);
+        MillstreamPayments legs = new MillstreamPayments();
+        legs.list(7, true);
+        real(legs, 0, 0, 1, 10);
+        legs.send(1, 0, 0, 1, 10, 7, 0, true, 0, true);
+        legs.join(0, 1);
+        legs.fund(0, 0, 10);
+        due("a leg whose other one is HELD is none", legs.endDay(), 0);
+        legs.release(1, 0);
+        legs.release(1, 1);
+        legs.fund(1, 1, 9);
+        due("nor one whose other one lacks 1", legs.endDay(), 0);
+        legs.fund(1, 1, 1);
+        due("both were FINAL ahead of it", legs.endDay(), 0);
+        due("they are", Checks.states(legs), list(FINAL, FINAL));
     }
 
     /** Promise 17: "Throws IllegalStateException if it is the day 998" */

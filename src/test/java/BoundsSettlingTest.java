@@ -472,12 +472,32 @@ public final class BoundsSettlingTest extends Bounds {
             x.fund(2, 0, 10);
             real(x, 2, 0, 0, 9);
         }, 0);
-        runs("a release and a refusal", x -> {
-            x.list(7, true);
+        runs("a refusal, of what is beside", x -> {
             first(x);
-            x.fund(0, 0, 10);
-            x.refuse(2);
+            x.list(8, true);
+            x.send(1, 5, 0, 1, 1000, 8, 0, true, 0, true);
+            x.refuse(3);
+        }, 0);
+        runs("a refusal, of the other leg of what is ahead", x -> {
+            first(x);
+            x.list(8, true);
+            x.send(1, 5, 0, 1, 1000, 8, 0, true, 0, true);
+            x.join(2, 3);
+            x.refuse(3);
         }, 1);
+        runs("a release, by one", x -> {
+            x.list(1, true);
+            x.fund(0, 0, 10);
+            x.release(0, 0);
+        }, -1);
+        runs("a release, by two", x -> {
+            x.list(1, true);
+            x.fund(0, 0, 10);
+            x.release(0, 0);
+            x.release(0, 1);
+        }, 1);
+        runs("an answer, that gives back 1 too little", x -> givesBack(x, 9), 0);
+        runs("an answer, that gives back just enough", x -> givesBack(x, 10), 1);
     }
 
     /** One that is ahead of the payment 0, and never can settle; money for the payment 0. */
@@ -486,12 +506,20 @@ public final class BoundsSettlingTest extends Bounds {
         x.fund(0, 0, 10);
     }
 
+    private static void givesBack(MillstreamPayments x, int amount) {
+        x.send(0, 1, 2, 0, amount, 1, 2, true, 0, true);
+        x.fund(0, 0, amount);
+        due("nothing is left for the payment 0", x.account(0, 0), 0);
+        x.recall(2);
+        x.answer(2, true);
+    }
+
     private static void runs(String what, Call call, int want) {
         MillstreamPayments x = new MillstreamPayments();
         real(x, 0, 0, 1, 10);
         paying(x, 5, 0, 4, 2, 10);
         due("QUEUED ahead of it", finals(x), 0);
         call.on(x);
-        due(what, x.stateOf(0), want == 1 ? FINAL : QUEUED);
+        due(what, x.stateOf(0), want == 1 ? FINAL : want == 0 ? QUEUED : HELD);
     }
 }

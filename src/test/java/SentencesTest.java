@@ -18,7 +18,8 @@ import java.util.regex.Pattern;
  * Run it from the project's folder.
  */
 public final class SentencesTest {
-    private static final Pattern TEST = Pattern.compile("(?s)(/\\*\\*((?:(?!\\*/).)*)\\*/\\s*)?\\n    static void (\\w+)\\(\\)");
+    private static final Pattern TEST =
+            Pattern.compile("(?s)(/\\*\\*((?:(?!\\*/).)*)\\*/\\s*)?\\n    static void (\\w+)\\(\\)");
     private static final Pattern NAMED = Pattern.compile("([\\w ]+): \"(.*)\"");
 
     public static void main(String[] args) throws IOException {
